@@ -511,11 +511,11 @@ public final class DarkPlace {
         private int hole = 1;
         private int searchers = 1;
         private int edges = 0;
-        /** The first place of the edge that is being read. */
-        private int from = 0;
-        /** Of each edge both its places, of each place its edges, and the places at their other ends: all as bits. */
+        /** Of each edge both its places, of each place its edges: as bits. */
         private final int[] ends = new int[MOST_EDGES];
         private final int[] edgesAt = new int[MOST_PLACES];
+        /** Only for reading: the first place of the edge that has begun, and which places have an edge to which. */
+        private int from = 0;
         private final int[] beside = new int[MOST_PLACES];
 
         void clear() {
@@ -532,7 +532,6 @@ public final class DarkPlace {
             edges = other.edges;
             System.arraycopy(other.ends, 0, ends, 0, MOST_EDGES);
             System.arraycopy(other.edgesAt, 0, edgesAt, 0, MOST_PLACES);
-            System.arraycopy(other.beside, 0, beside, 0, MOST_PLACES);
         }
 
         static boolean mayEndAt(int length) {
