@@ -1,4 +1,6 @@
 import java.util.function.LongSupplier;
+import java.util.function.Supplier;
+import java.util.function.ToLongFunction;
 
 /** Counts the answers that are not as due, and ends a test with 1 if there was one. */
 final class Due {
@@ -6,23 +8,48 @@ final class Due {
 
     private int right = 0;
     private int wrong = 0;
+    private String sentence = "";
+    private int sentences = 0;
+    private int answersOfSentence = 0;
 
-    void is(String what, long got, long want) {
-        if (got == want) {
-            right++;
-        } else {
+    /** The answers from here on, up to the next call of this, speak for that sentence of the document. */
+    void of(String next) {
+        sentenceHasAnswers();
+        sentence = next;
+        sentences++;
+        answersOfSentence = 0;
+    }
+
+    private void sentenceHasAnswers() {
+        if (sentences > 0 && answersOfSentence == 0) {
             wrong++;
-            System.out.println(what + " answered " + got + ", due is " + want);
+            System.out.println("[" + sentence + "] has no test");
         }
     }
 
-    void same(String what, String got, String want) {
-        if (got.equals(want)) {
+    private void count(boolean isRight, String what) {
+        answersOfSentence++;
+        if (isRight) {
             right++;
         } else {
             wrong++;
-            System.out.println(what + " gave " + got + ", due is " + want);
+            System.out.println((sentence.isEmpty() ? "" : "[" + sentence + "] ") + what);
         }
+    }
+
+    void is(String what, long got, long want) {
+        count(got == want, what + " answered " + got + ", due is " + want);
+    }
+
+    void same(String what, String got, String want) {
+        count(got.equals(want), what + " gave " + got + ", due is " + want);
+    }
+
+    /** A refusal: every call behind it answers as on a twin of the object that was not asked. */
+    void refusedBeside(String what, Supplier<DarkPlace> made, ToLongFunction<DarkPlace> call, long want) {
+        DarkPlace x = made.get();
+        is(what, call.applyAsLong(x), want);
+        same("everything behind " + what, Probe.everything(x), Probe.everything(made.get()));
     }
 
     /** A refusal: the answer is as due, and nothing that can be asked is changed. */
@@ -33,7 +60,9 @@ final class Due {
     }
 
     void end() {
-        System.out.println(right + " answers as due, " + wrong + " not");
+        sentenceHasAnswers();
+        String of = sentences == 0 ? "" : " (" + sentences + " sentences)";
+        System.out.println(right + " answers as due, " + wrong + " not" + of);
         if (wrong != 0) {
             System.exit(1);
         }
