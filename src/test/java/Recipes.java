@@ -41,6 +41,18 @@ final class Recipes {
         return x;
     }
 
+    /** As where none lives, but with 14 acts: the hole went to 2 and back six times, a round swallowed the only one, the hole is at 2. */
+    static DarkPlace noneLivesFull() {
+        DarkPlace x = Due.told("N3011e01");
+        for (int turn = 0; turn < 6; turn++) {
+            x.hide(2);
+            x.hide(1);
+        }
+        x.round();
+        x.hide(2);
+        return x;
+    }
+
     /** Home 0, the hole 1, edge 0 between them, a third place; the only searcher is swallowed: one move, one act. */
     static DarkPlace noneLives() {
         DarkPlace x = Due.told("N3011e01");

@@ -111,6 +111,7 @@ public final class TermsHeadTest {
         full("step() of a swallowed one", x -> x.step(1, 0), Due.STATE);
         full("step() of none", x -> x.step(4, 0), Due.UNKNOWN);
         full("join()", DarkPlace::join, Due.FULL);
+        due.refusedBeside("round() where none lives, 14 acts", Recipes::noneLivesFull, DarkPlace::round, Due.STATE);
         full("hide() where it is", x -> x.hide(3), Due.STATE);
         full("hide() at home", x -> x.hide(0), Due.STATE);
         full("hide() nowhere", x -> x.hide(6), Due.UNKNOWN);

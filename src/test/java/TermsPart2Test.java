@@ -181,6 +181,10 @@ public final class TermsPart2Test {
         due.is("places that have a fate", x.ask(7), 0b00110);
         due.is("the worst then", x.ask(5), 1);
         due.is("the only one", new DarkPlace().ask(5), 1);
+        // Where one is out there is no fate: the hole may be at 1 and 2, and 2 alone has one.
+        DarkPlace out = Due.told("N3021e01");
+        Due.steps(out, "00");
+        due.is("not where one is out", out.ask(5), 2);
         // 1 to 5 are visited; edge 5: 0-7 comes ahead of 6: 0-6, so the hole at 7 swallows, and at 6 it is known when 7 is visited.
         DarkPlace y = Due.told("N8061e01e02e03e04e05e07e06");
         Due.steps(y, "00", "00", "01", "01", "02", "02", "03", "03", "04", "04");
