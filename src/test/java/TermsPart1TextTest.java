@@ -57,9 +57,9 @@ public final class TermsPart1TextTest {
         fault("O2011", 0);
         fault("n2011", 0);
         fault("2011", 0);
-        fault((char) 0 + "2011", 0);
-        fault((char) 255 + "2011", 0);
-        fault("N2011", Due.NONE);
+        for (char letter = 0; letter < 256; letter++) {
+            fault(letter + "2011", letter == 'N' ? Due.NONE : 0);
+        }
     }
 
     private static void placesOfANet() {
@@ -77,10 +77,9 @@ public final class TermsPart1TextTest {
                 fault("N" + places + home + (home == 1 ? "0" : "1") + "1", home < places ? Due.NONE : 2);
             }
         }
-        fault("N8/11", 2);
-        fault("N8:11", 2);
-        fault("Nx", 1);
-        fault("N8e", 2);
+        for (char letter = 0; letter < 256; letter++) {
+            fault("N6" + letter + (letter == '1' ? "0" : "1") + "1", letter >= '0' && letter <= '5' ? Due.NONE : 2);
+        }
     }
 
     private static void holeOfANet() {
@@ -90,9 +89,9 @@ public final class TermsPart1TextTest {
                 fault("N" + places + "1" + hole + "1", hole < places && hole != 1 ? Due.NONE : 3);
             }
         }
-        fault("N81/1", 3);
-        fault("N81:1", 3);
-        fault("N81N", 3);
+        for (char letter = 0; letter < 256; letter++) {
+            fault("N63" + letter + "1", letter >= '0' && letter <= '5' && letter != '3' ? Due.NONE : 3);
+        }
     }
 
     private static void searchersOfANet() {
